@@ -30,6 +30,7 @@ public final class PromisesTest {
         promise20Fault();
         promise21CarryOut();
         promise22Undo();
+        promise22UndoAll();
         promise23Save();
         promise24Restore();
         checks.end();
@@ -574,6 +575,39 @@ public final class PromisesTest {
         checkFault(longest.toString(), NONE);
         longest.setCharAt(79, ';');
         checkFault(longest.toString(), 79);
+        checkFaultsAtTheEnd();
+        checkFaultsOverWipedText();
+    }
+
+    /** Every way in which an order can end too early, at the end of a full pad. */
+    private static void checkFaultsAtTheEnd() {
+        for (String order : new String[] {"f1@2%3", "s0@1:2*3", "w01=5", "t1/2:3", "-1"}) {
+            for (int length = 0; length < order.length(); length++) {
+                StringBuilder text = new StringBuilder();
+                while (text.length() + length < 80 - 6) {
+                    text.append("-0;");
+                }
+                String[] ofFourOrMore = {"-10;", "-100;", "-1000;"};
+                text.append(ofFourOrMore[80 - length - text.length() - 4]);
+                text.append(order, 0, length);
+                checkFault(text.toString(), 80);
+            }
+        }
+    }
+
+    /** What was wiped must not be read again behind the end of the text. */
+    private static void checkFaultsOverWipedText() {
+        for (String order : new String[] {"f1@2%34;-0", "s0@1:25*39", "w01=52;-0", "t1/2:34;-0", "-12;-0"}) {
+            for (int length = 0; length < order.length(); length++) {
+                CircuitReels x = new CircuitReels();
+                CircuitReels fresh = new CircuitReels();
+                Checks.write(x, order);
+                x.wipe();
+                Checks.write(x, order.substring(0, length));
+                Checks.write(fresh, order.substring(0, length));
+                due("fault over wiped text: " + order + " " + length, x.fault(), fresh.fault());
+            }
+        }
     }
 
     private static void checkFault(String text, int fault) {
@@ -648,6 +682,58 @@ public final class PromisesTest {
         due("the slot stays", x.restore(0), 0);
         x.undo();
         due("the way behind undo of restore", x.way(2, 3, 1), 44);
+    }
+
+    /** Each kind of change, undone, leaves every answer as it was. */
+    private static void promise22UndoAll() {
+        for (int kind = 0; kind < 9; kind++) {
+            CircuitReels x = new CircuitReels();
+            x.film(2, 1, 30);
+            x.film(3, 2, 60);
+            x.show(0, 1, 50, 10);
+            x.show(1, 3, 60, 20);
+            x.show(0, 1, 66, 30);
+            x.tear(1, 0, 20);
+            x.save(1);
+            x.drop(1);
+            x.show(1, 2, 30, 40);
+            String before = allAnswers(x);
+            int answer = change(x, kind);
+            checks.holds("change " + kind + " is one", answer >= 0 || answer == NONE);
+            checks.holds("change " + kind + " makes a difference", !before.equals(allAnswers(x)));
+            due("undo of change " + kind, x.undo(), 5);
+            checks.holds("undo of change " + kind + " undoes all", before.equals(allAnswers(x)));
+        }
+    }
+
+    private static int change(CircuitReels x, int kind) {
+        switch (kind) {
+            case 0: return x.set(CircuitReels.LAST, 17);
+            case 1: return x.film(5, 0, 12);
+            case 2: return x.way(2, 3, 12);
+            case 3: return x.show(0, 3, 700, 12);
+            case 4: return x.drop(0);
+            case 5: return x.tear(0, 1, 12);
+            case 6: return x.glue(1, 0);
+            case 7: return x.restore(1);
+            default:
+                Checks.write(x, "s0@2:9*9;f1@1%1");
+                return x.carryOut();
+        }
+    }
+
+    /** All but the pad and the history, the ways by what they cost. */
+    private static String allAnswers(CircuitReels x) {
+        StringBuilder all = new StringBuilder();
+        for (int what = 0; what < 13; what++) {
+            all.append(x.count(what)).append(' ').append(x.advert(what)).append(' ');
+            for (int index = 0; index < 5; index++) {
+                all.append(x.ofShow(index, what)).append(' ').append(x.ofFilm(index, what)).append(' ');
+                all.append(x.ofHouse(index, what)).append(' ').append(x.shown(index, what)).append(' ');
+                all.append(x.where(index, what, 77)).append(' ').append(x.firstFree(index, what, 0)).append(' ');
+            }
+        }
+        return all.toString();
     }
 
     private static void promise23Save() {
