@@ -1,21 +1,28 @@
-/** Counts the answers that are not as due, and prints them. */
+/** Counts the answers that are not as due, and prints the first ones of them. */
 final class Checks {
+    private static final int PRINTED_AT_MOST = 40;
+
     private int wrong = 0;
     private int made = 0;
 
     void due(String call, long got, long want) {
         made++;
         if (got != want) {
-            wrong++;
-            System.out.println(call + " answered " + got + ", due is " + want);
+            printWrong(call + " answered " + got + ", due is " + want);
         }
     }
 
     void holds(String what, boolean isSo) {
         made++;
         if (!isSo) {
-            wrong++;
-            System.out.println("does not hold: " + what);
+            printWrong("does not hold: " + what);
+        }
+    }
+
+    private void printWrong(String what) {
+        wrong++;
+        if (wrong <= PRINTED_AT_MOST) {
+            System.out.println(what);
         }
     }
 
