@@ -105,6 +105,7 @@ final class Circuits {
                 all.append(' ').append(x.ofFilm(film, what));
             }
             for (int reel = 0; reel < 6; reel++) {
+                all.append(' ').append(x.where(film, reel, 60)).append(' ').append(x.where(film, reel, 9999));
                 all.append(' ').append(x.glue(film, reel));
             }
         }

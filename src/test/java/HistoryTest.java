@@ -31,6 +31,7 @@ public final class HistoryTest {
         promise24NothingSaved();
         promise24AnEmptyCircuit();
         promise24AFullCircuit();
+        promise24AnotherFilmOfTheNumber();
         promise24TheSlotKeepsIt();
         promise24IsAChange();
         promise24LeavesPadAndSlots();
@@ -320,6 +321,34 @@ public final class HistoryTest {
         due("PRICE", x.count(12), 9);
         due("restore(0), which was saved without shows, too", x.restore(0), 0);
         due("PRICE in it", x.count(12), 5);
+    }
+
+    /** A film that was undone may be saved, and another one may have come with its number. */
+    private static void promise24AnotherFilmOfTheNumber() {
+        CircuitReels x = new CircuitReels();
+        x.film(3, 2, 44);
+        x.tear(0, 2, 9);
+        x.save(0);
+        x.undo();
+        x.undo();
+        x.film(5, 1, 66);
+        x.show(0, 0, 700, 0);
+        int[] saved = {3, 2, 44, 0, 0, 0};
+        int[] other = {5, 1, 66, 1, 5, 0};
+        checkFilm(x, other);
+        due("restore(0)", x.restore(0), 0);
+        checkFilm(x, saved);
+        due("its tear", x.tear(0, 2, 9), 9);
+        x.undo();
+        due("undo of restore", x.undo(), 2);
+        checkFilm(x, other);
+        due("no tear", x.glue(0, 2), NOT_POSSIBLE);
+    }
+
+    private static void checkFilm(CircuitReels x, int[] want) {
+        for (int what = 0; what < 6; what++) {
+            due("ofFilm(0, " + what + ")", x.ofFilm(0, what), want[what]);
+        }
     }
 
     /** Later changes don't reach into what was saved. */

@@ -29,6 +29,7 @@ public final class ShowsTest {
         promise10LastEnd();
         promise10MissedSets();
         promise10GivenBackIsRoundedDown();
+        promise10AllIsGivenBack();
         promise10RentalIsRoundedDown();
         promise10FirstAdvertGoesRound();
         promise11EachReel();
@@ -37,6 +38,7 @@ public final class ShowsTest {
         promise12WhileShownOrMended();
         promise12Stays();
         promise12LeastAndMost();
+        promise12EachFilm();
         promise12EachReel();
         promise13GreatestEnd();
         promise13CarriedEachTime();
@@ -406,6 +408,20 @@ public final class ShowsTest {
         }
     }
 
+    private static void promise10AllIsGivenBack() {
+        for (int reels = 1; reels <= 6; reels++) {
+            CircuitReels x = circuitOf(reels);
+            x.show(0, 1, 0, 999);
+            x.set(PRICE, 99);
+            due("takings", x.ofShow(0, 8), 98901);
+            due("given back for all of " + reels, x.ofShow(0, 9), 98901);
+            due("rental of what is left", x.ofShow(0, 10), 0);
+            x.set(WAIT, 60);
+            due("given back for none of " + reels, x.ofShow(0, 9), 0);
+            due("rental of all", x.ofShow(0, 10), 98901);
+        }
+    }
+
     /** "What is left, times the rental hundredths, divided by 100." */
     private static void promise10RentalIsRoundedDown() {
         int[] hundredths = {0, 1, 19, 20, 39, 40, 99, 100};
@@ -526,6 +542,27 @@ public final class ShowsTest {
         x.show(0, 3, 1439, 0);
         due("at minute 0, to be shown elsewhere", x.where(0, 0, 0), NONE);
         due("at minute 9999, shown elsewhere", x.where(0, 0, 9999), 3);
+    }
+
+    /** Shows of other films have reels of their own. */
+    private static void promise12EachFilm() {
+        CircuitReels x = new CircuitReels();
+        for (int film = 0; film < 5; film++) {
+            x.film(1, film % 4, 0);
+        }
+        for (int show = 0; show < 20; show++) {
+            x.show(show / 4, show % 4, 70 * show + 30, 0);
+        }
+        for (int film = 0; film < 5; film++) {
+            for (int house = 0; house < 4; house++) {
+                int free = 280 * film + 70 * house + 45;
+                due("film " + film + " is shown", x.where(film, 0, free - 1), house);
+                due("film " + film + " is free", x.where(film, 0, free), house == 3 ? 3 : NONE);
+                due("film " + film + " is in the next house", x.where(film, 0, free + 10), Math.min(3, house + 1));
+            }
+            due("film " + film + " at the beginning", x.where(film, 0, 0), film % 4 == 0 ? 0 : NONE);
+            due("film " + film + " at the end", x.where(film, 0, 9999), 3);
+        }
     }
 
     private static void promise12EachReel() {

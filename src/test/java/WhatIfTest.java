@@ -11,6 +11,7 @@ public final class WhatIfTest {
         promise16NeitherWaits();
         promise16EachReelIsThere();
         promise16BehindShowsOfTheSameMinute();
+        promise16BehindOneThatLeavesItsReels();
         promise16AheadOfAnother();
         promise16UpToTheLastMinute();
         promise16NoneIsLeft();
@@ -26,6 +27,7 @@ public final class WhatIfTest {
         promise17OneMinuteMore();
         promise17WithinAHouse();
         promise17EachWay();
+        promise17OneWayAfterAnother();
         promise17LongerThan99();
         promise17MostOfAll();
         promise17Fewer();
@@ -89,6 +91,20 @@ public final class WhatIfTest {
         x.set(WAIT, 0);
         // In house 0 at 300 the reel would be gone to house 1, though it is there until 101.
         due("there and back", x.firstFree(0, 0, 290), 311);
+    }
+
+    /** Behind a show of its minute, which has only reel 2, it may have that reel when it is due; ahead of it it may not. */
+    private static void promise16BehindOneThatLeavesItsReels() {
+        CircuitReels x = circuitOf(3);
+        x.set(MEND, 60);
+        x.tear(0, 0, 0);
+        x.tear(0, 1, 0);
+        x.show(0, 0, 0, 0);
+        x.show(0, 1, 60, 0);
+        x.show(0, 1, 76, 0);
+        // Reels 0 and 1 are free at home at 75 and 90, too late for the shows in house 1; reel 2 is there until 91.
+        due("missed in house 1", x.ofShow(2, 7), 3);
+        due("at 75 reel 2 would be missed by it, too", x.firstFree(0, 0, 0), 76);
     }
 
     /** "No other show waits longer." */
@@ -280,6 +296,18 @@ public final class WhatIfTest {
     }
 
     private static void promise17EachWay() {
+        for (int home = 0; home < 4; home++) {
+            for (int house = 0; house < 4; house++) {
+                CircuitReels x = new CircuitReels();
+                x.film(1, home, 0);
+                x.show(0, house, 10, 0);
+                due("from " + home + " to " + house + ", 5 minutes more", x.slower(5), 1000);
+                due("from " + home + " to " + house + ", 6 minutes more", x.slower(6), home == house ? 1000 : 1001);
+            }
+        }
+    }
+
+    private static void promise17OneWayAfterAnother() {
         CircuitReels x = circuitOf(1);
         x.show(0, 1, 10, 0);
         x.show(0, 2, 35, 0);
